@@ -831,10 +831,11 @@ public final class NoiseEngine {
             h[0] += 5 * over;
         }
 
-        /** Into 0 to p - 1: if h + 5 passes bit 130, then h + 5 without that bit is h - p. */
+        /**
+         * Into 0 to p - 1: if h + 5 passes bit 130, then h + 5 without that bit is h - p. Once is
+         * enough, since carry() leaves h far below 2 p.
+         */
         private void reduce() {
-            carry();
-            carry();
             long over = 5;
             for (int i = 0; i < 5; i++) {
                 over = h[i] + over >>> 26;

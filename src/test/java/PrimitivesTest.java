@@ -1,3 +1,4 @@
+import java.math.BigInteger;
 import java.util.Arrays;
 import java.util.Random;
 
@@ -11,6 +12,7 @@ public final class PrimitivesTest {
         curveVectors();
         curveThousandTimes();
         curveStrangePoints();
+        curveResultsAtTheEnds();
         curveEdges();
         hashVectors();
         hashEdges();
@@ -18,6 +20,7 @@ public final class PrimitivesTest {
         macEdges();
         sealVector();
         sealSizes();
+        sealTagsAtTheEnds();
         sealEdges();
         openTampered();
         openEdges();
@@ -94,6 +97,34 @@ public final class PrimitivesTest {
             byte[] same = Check.bytes(extreme);
             expectProduct(extreme, Check.hex(point), Check.hex(Reference.x25519(same, point)));
         }
+    }
+
+    /** Products that are nearly 0 or nearly p, where the last reduction has its edges. */
+    private static void curveResultsAtTheEnds() {
+        BigInteger[] orders = {
+            BigInteger.TWO.pow(252).add(new BigInteger("27742317777372353535851937790883648493")),
+            BigInteger.TWO.pow(253).subtract(new BigInteger("55484635554744707071703875581767296995")),
+        };
+        Random random = new Random(23);
+        byte[] scalar = new byte[32];
+        int low = 0;
+        int high = 0;
+        for (int i = -60; i <= 60; i++) {
+            BigInteger target = BigInteger.valueOf(i).mod(Reference.P);
+            for (BigInteger order : orders) {
+                random.nextBytes(scalar);
+                BigInteger back = Reference.decodeScalar(scalar).modInverse(order);
+                byte[] point = Reference.toLittle(Reference.ladder(back, target), 32);
+                byte[] due = Reference.toLittle(target, 32);
+                // Not every target is a multiple of a point by this order.
+                if (Arrays.equals(Reference.x25519(scalar, point), due)) {
+                    expectProduct(Check.hex(scalar), Check.hex(point), Check.hex(due));
+                    low += i > 0 ? 1 : 0;
+                    high += i < 0 ? 1 : 0;
+                }
+            }
+        }
+        CHECK.due("enough products near 0 and near p", low > 9 && high > 9, true);
     }
 
     private static void curveEdges() {
@@ -222,6 +253,40 @@ public final class PrimitivesTest {
             Arrays.fill(plain, (byte) (i % 2 == 0 ? 0xff : 0));
             expectSealed(key, random.nextLong(), new byte[i % 33], plain);
         }
+    }
+
+    /** Associated data such that the tag's number is nearly 0 or nearly 2 to the 130 - 5. */
+    private static void sealTagsAtTheEnds() {
+        BigInteger p = BigInteger.TWO.pow(130).subtract(BigInteger.valueOf(5));
+        BigInteger top = BigInteger.TWO.pow(128);
+        BigInteger lengths = BigInteger.valueOf(16).add(top);
+        Random random = new Random(29);
+        byte[] key = new byte[32];
+        int found = 0;
+        for (int i = 0; i < 4000; i++) {
+            random.nextBytes(key);
+            BigInteger r = tagMultiplier(key, i);
+            BigInteger target = BigInteger.valueOf(i % 21 - 10);
+            BigInteger before = target.multiply(r.modInverse(p)).subtract(lengths);
+            BigInteger block = before.multiply(r.modInverse(p)).subtract(top).mod(p);
+            if (block.compareTo(top) < 0) {
+                expectSealed(key, i, Reference.toLittle(block, 16), new byte[0]);
+                found++;
+            }
+        }
+        CHECK.due("enough tags near the ends", found > 500, true);
+    }
+
+    /** r of the one-time key, which is the first block of the key stream. */
+    private static BigInteger tagMultiplier(byte[] key, long n) {
+        byte[] r = Reference.part(Reference.chaCha20(key, n, 0, new byte[32]), 0, 16);
+        for (int i = 3; i < 16; i += 4) {
+            r[i] &= 15;
+        }
+        for (int i = 4; i < 16; i += 4) {
+            r[i] &= (byte) 252;
+        }
+        return Reference.fromLittle(r);
     }
 
     private static void expectSealed(byte[] key, long n, byte[] associated, byte[] plain) {

@@ -4,12 +4,13 @@ import java.security.MessageDigest;
 import java.util.Arrays;
 import javax.crypto.Cipher;
 import javax.crypto.Mac;
+import javax.crypto.spec.ChaCha20ParameterSpec;
 import javax.crypto.spec.IvParameterSpec;
 import javax.crypto.spec.SecretKeySpec;
 
 /** The same primitives by other means: the Java library's, and the curve over BigInteger. */
 final class Reference {
-    private static final BigInteger P = BigInteger.ONE.shiftLeft(255).subtract(BigInteger.valueOf(19));
+    static final BigInteger P = BigInteger.ONE.shiftLeft(255).subtract(BigInteger.valueOf(19));
     private static final BigInteger A24 = BigInteger.valueOf(121665);
 
     private Reference() {
@@ -79,14 +80,29 @@ final class Reference {
     }
 
     private static Cipher cipher(int mode, byte[] key, long n, byte[] associated) throws GeneralSecurityException {
+        Cipher cipher = Cipher.getInstance("ChaCha20-Poly1305");
+        cipher.init(mode, new SecretKeySpec(key, "ChaCha20"), new IvParameterSpec(nonce(n)));
+        cipher.updateAAD(associated);
+        return cipher;
+    }
+
+    static byte[] chaCha20(byte[] key, long n, int block, byte[] plain) {
+        try {
+            Cipher cipher = Cipher.getInstance("ChaCha20");
+            cipher.init(Cipher.ENCRYPT_MODE, new SecretKeySpec(key, "ChaCha20"),
+                    new ChaCha20ParameterSpec(nonce(n), block));
+            return cipher.doFinal(plain);
+        } catch (GeneralSecurityException e) {
+            throw new IllegalStateException(e);
+        }
+    }
+
+    private static byte[] nonce(long n) {
         byte[] nonce = new byte[12];
         for (int i = 0; i < 8; i++) {
             nonce[4 + i] = (byte) (n >>> 8 * i);
         }
-        Cipher cipher = Cipher.getInstance("ChaCha20-Poly1305");
-        cipher.init(mode, new SecretKeySpec(key, "ChaCha20"), new IvParameterSpec(nonce));
-        cipher.updateAAD(associated);
-        return cipher;
+        return nonce;
     }
 
     static byte[] publicKey(byte[] secret) {
@@ -96,15 +112,20 @@ final class Reference {
     }
 
     static byte[] x25519(byte[] secret, byte[] point) {
+        byte[] masked = point.clone();
+        masked[31] &= 127;
+        return toLittle(ladder(decodeScalar(secret), fromLittle(masked).mod(P)), 32);
+    }
+
+    static BigInteger decodeScalar(byte[] secret) {
         byte[] scalar = secret.clone();
         scalar[0] &= (byte) 248;
         scalar[31] = (byte) (scalar[31] & 127 | 64);
-        byte[] masked = point.clone();
-        masked[31] &= 127;
-        return toLittle(ladder(fromLittle(scalar), fromLittle(masked).mod(P)));
+        return fromLittle(scalar);
     }
 
-    private static BigInteger ladder(BigInteger k, BigInteger u) {
+    /** k times the point u, for any k below 2 to the 255. */
+    static BigInteger ladder(BigInteger k, BigInteger u) {
         BigInteger x2 = BigInteger.ONE;
         BigInteger z2 = BigInteger.ZERO;
         BigInteger x3 = u;
@@ -136,17 +157,17 @@ final class Reference {
         return x2.multiply(z2.modPow(P.subtract(BigInteger.TWO), P)).mod(P);
     }
 
-    private static BigInteger fromLittle(byte[] bytes) {
-        byte[] big = new byte[32];
-        for (int i = 0; i < 32; i++) {
-            big[i] = bytes[31 - i];
+    static BigInteger fromLittle(byte[] bytes) {
+        byte[] big = new byte[bytes.length];
+        for (int i = 0; i < bytes.length; i++) {
+            big[i] = bytes[bytes.length - 1 - i];
         }
         return new BigInteger(1, big);
     }
 
-    private static byte[] toLittle(BigInteger value) {
-        byte[] little = new byte[32];
-        for (int i = 0; i < 32; i++) {
+    static byte[] toLittle(BigInteger value, int size) {
+        byte[] little = new byte[size];
+        for (int i = 0; i < size; i++) {
             little[i] = value.shiftRight(8 * i).byteValue();
         }
         return little;
