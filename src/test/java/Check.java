@@ -28,6 +28,10 @@ final class Check {
         }
     }
 
+    int asked() {
+        return asked;
+    }
+
     boolean allDue() {
         return wrong == 0;
     }

@@ -31,6 +31,18 @@ final class Pair {
         return x;
     }
 
+    /** The same two sessions by other means, at the same step. */
+    static ReferenceSession[] references(int step) {
+        ReferenceSession[] both = {
+            new ReferenceSession(true, Check.bytes(INITIATOR_STATIC), Check.bytes(INITIATOR_EPHEMERAL), new byte[0]),
+            new ReferenceSession(false, Check.bytes(RESPONDER_STATIC), Check.bytes(RESPONDER_EPHEMERAL), new byte[0]),
+        };
+        for (int i = 0; i < step; i++) {
+            both[1 - i % 2].read(both[i % 2].write(new byte[0]));
+        }
+        return both;
+    }
+
     static String publicHex(String secret) {
         return Check.hex(Reference.publicKey(Check.bytes(secret)));
     }

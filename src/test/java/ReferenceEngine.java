@@ -2,84 +2,18 @@ import java.util.Arrays;
 
 /** The document's promises once more, in the plainest way and upon the Java library. */
 final class ReferenceEngine {
-    private static final byte[] NAME = Check.bytes(Check.asciiHex("Noise_XX_25519_ChaChaPoly_SHA256"));
     private static final byte[] NOTHING = {};
 
     private byte[] tape = NOTHING;
     private byte[] out = NOTHING;
     private final byte[][] keys = new byte[8][32];
-    private final Session[] sessions = new Session[4];
-
-    /** All of a session, so that a copy of it is the way back from a refused message. */
-    private static final class Session implements Cloneable {
-        boolean initiator;
-        byte[] ownStatic;
-        byte[] ownEphemeral;
-        byte[] otherStatic;
-        byte[] otherEphemeral;
-        byte[] h = NAME;
-        byte[] ck = NAME;
-        byte[] k;
-        long n;
-        int step;
-        int refused;
-        byte[][] transportKeys;
-        long[] transportNs = {0, 0};
-
-        Session copy() {
-            try {
-                Session copy = (Session) clone();
-                copy.transportNs = transportNs.clone();
-                return copy;
-            } catch (CloneNotSupportedException e) {
-                throw new IllegalStateException(e);
-            }
-        }
-
-        void mixHash(byte[] data) {
-            h = Reference.sha256(Reference.join(h, data));
-        }
-
-        void mixKey(byte[] secret, byte[] point) {
-            byte[][] both = Reference.hkdf(ck, Reference.x25519(secret, point));
-            ck = both[0];
-            k = both[1];
-            n = 0;
-        }
-
-        byte[] encryptAndHash(byte[] plain) {
-            byte[] sealed = k == null ? plain : Reference.seal(k, n++, h, plain);
-            mixHash(sealed);
-            return sealed;
-        }
-
-        byte[] decryptAndHash(byte[] sealed) {
-            byte[] plain = k == null ? sealed : Reference.open(k, n++, h, sealed);
-            mixHash(sealed);
-            return plain;
-        }
-
-        void done() {
-            step++;
-            if (step == 3) {
-                transportKeys = Reference.hkdf(ck, NOTHING);
-            }
-        }
-
-        boolean writesNext() {
-            return step == 0 && initiator || step == 1 && !initiator || step == 2 && initiator;
-        }
-
-        int way(boolean sending) {
-            return sending == initiator ? 0 : 1;
-        }
-    }
+    private final ReferenceSession[] sessions = new ReferenceSession[4];
 
     private boolean isKey(int k) {
         return 0 <= k && k <= 7;
     }
 
-    private Session session(int s) {
+    private ReferenceSession session(int s) {
         return 0 <= s && s <= 3 ? sessions[s] : null;
     }
 
@@ -177,156 +111,66 @@ final class ReferenceEngine {
         if (s < 0 || s > 3 || !isKey(fixed) || !isKey(passing) || !has(n)) {
             return false;
         }
-        Session begun = new Session();
-        begun.initiator = initiator;
-        begun.ownStatic = keys[fixed].clone();
-        begun.ownEphemeral = keys[passing].clone();
-        begun.mixHash(pull(n));
-        sessions[s] = begun;
+        sessions[s] = new ReferenceSession(initiator, keys[fixed], keys[passing], pull(n));
         return true;
     }
 
     int write(int s, int n) {
-        Session x = session(s);
+        ReferenceSession x = session(s);
         if (x == null || n > 900 || !has(n)) {
             return -2;
         }
         byte[] payload = pull(n);
-        if (!x.writesNext()) {
-            return -1;
-        }
-        byte[] message = NOTHING;
-        switch (x.step) {
-            case 0:
-                message = writeE(x);
-                break;
-            case 1:
-                message = writeE(x);
-                x.mixKey(x.ownEphemeral, x.otherEphemeral);
-                message = Reference.join(message, x.encryptAndHash(Reference.publicKey(x.ownStatic)));
-                x.mixKey(x.ownStatic, x.otherEphemeral);
-                break;
-            default:
-                message = x.encryptAndHash(Reference.publicKey(x.ownStatic));
-                x.mixKey(x.ownStatic, x.otherEphemeral);
-        }
-        message = Reference.join(message, x.encryptAndHash(payload));
-        x.done();
-        return give(message);
-    }
-
-    private byte[] writeE(Session x) {
-        byte[] e = Reference.publicKey(x.ownEphemeral);
-        x.mixHash(e);
-        return e;
+        return x.writesNext() ? give(x.write(payload)) : -1;
     }
 
     int read(int s, int n) {
-        Session x = session(s);
+        ReferenceSession x = session(s);
         if (x == null || !has(n)) {
             return -2;
         }
         byte[] message = pull(n);
-        if (x.step == 3 || x.writesNext()) {
-            return -1;
-        }
-        Session trial = x.copy();
-        byte[] payload = readInto(trial, message);
-        if (payload == null) {
-            x.refused++;
-            return -1;
-        }
-        trial.done();
-        sessions[s] = trial;
-        return give(payload);
-    }
-
-    private byte[] readInto(Session x, byte[] message) {
-        byte[] rest = message;
-        if (x.step < 2) {
-            if (rest.length < 32) {
-                return null;
-            }
-            x.otherEphemeral = Reference.part(rest, 0, 32);
-            x.mixHash(x.otherEphemeral);
-            rest = Reference.part(rest, 32, rest.length - 32);
-        }
-        if (x.step == 1) {
-            x.mixKey(x.ownEphemeral, x.otherEphemeral);
-        }
-        if (x.step > 0) {
-            if (rest.length < 48) {
-                return null;
-            }
-            x.otherStatic = x.decryptAndHash(Reference.part(rest, 0, 48));
-            if (x.otherStatic == null) {
-                return null;
-            }
-            x.mixKey(x.ownEphemeral, x.otherStatic);
-            rest = Reference.part(rest, 48, rest.length - 48);
-        }
-        return x.decryptAndHash(rest);
+        return x.readsNext() ? give(x.read(message)) : -1;
     }
 
     int send(int s, int n) {
-        Session x = session(s);
+        ReferenceSession x = session(s);
         if (x == null || n > 900 || !has(n)) {
             return -2;
         }
         byte[] plain = pull(n);
-        if (x.step < 3) {
-            return -1;
-        }
-        int way = x.way(true);
-        return give(Reference.seal(x.transportKeys[way], x.transportNs[way]++, NOTHING, plain));
+        return x.isOver() ? give(x.send(plain)) : -1;
     }
 
     int receive(int s, int n) {
-        Session x = session(s);
+        ReferenceSession x = session(s);
         if (x == null || !has(n)) {
             return -2;
         }
         byte[] sealed = pull(n);
-        if (x.step < 3) {
-            return -1;
-        }
-        int way = x.way(false);
-        byte[] plain = Reference.open(x.transportKeys[way], x.transportNs[way], NOTHING, sealed);
-        if (plain == null) {
-            x.refused++;
-        } else {
-            x.transportNs[way]++;
-        }
-        return give(plain);
+        return x.isOver() ? give(x.receive(sealed)) : -1;
     }
 
     boolean rekey(int s, boolean sending) {
-        Session x = session(s);
-        if (x == null || x.step < 3) {
+        ReferenceSession x = session(s);
+        if (x == null || !x.isOver()) {
             return false;
         }
-        int way = x.way(sending);
-        x.transportKeys[way] = Arrays.copyOf(Reference.seal(x.transportKeys[way], -1, NOTHING, new byte[32]), 32);
+        x.rekey(sending);
         return true;
     }
 
     int state(int s, int what) {
-        Session x = session(s);
-        if (x == null || what < 0 || what > 5) {
-            return -1;
-        }
-        long[] all = {x.step, x.initiator ? 1 : 0, x.otherStatic != null ? 1 : 0,
-            x.transportNs[x.way(true)], x.transportNs[x.way(false)], x.refused};
-        return (int) all[what];
+        ReferenceSession x = session(s);
+        return x == null || what < 0 || what > 5 ? -1 : x.figure(what);
     }
 
     int told(int s, int which, int k) {
-        Session x = session(s);
-        if (x == null || which < 0 || which > 2 || k < 0 || k > 31) {
+        ReferenceSession x = session(s);
+        if (x == null || which < 0 || which > 2 || k < 0 || k > 31 || x.known(which) == null) {
             return -1;
         }
-        byte[][] all = {x.h, x.otherStatic, x.otherEphemeral};
-        return all[which] == null ? -1 : all[which][k] & 0xff;
+        return x.known(which)[k] & 0xff;
     }
 
     int out(int k) {
