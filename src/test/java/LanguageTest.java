@@ -1,3 +1,4 @@
+import java.io.DataInputStream;
 import java.io.IOException;
 import java.lang.reflect.Field;
 import java.lang.reflect.Method;
@@ -29,9 +30,14 @@ public final class LanguageTest {
         "\\bfor\\s*\\(\\s*;",
     };
 
+    /** Those members of the library that the class uses, all of them in rule 4. */
+    private static final Set<String> LIBRARY = Set.of("java/lang/Object.<init>", "java/lang/System.arraycopy",
+            "java/lang/Integer.rotateRight", "java/lang/String.charAt");
+
     public static void main(String[] args) throws IOException {
         face();
         classes();
+        library();
         Path source = Path.of("src/main/java/NoiseEngine.java");
         String code = withoutComments(Files.readString(source));
         words(code);
@@ -104,6 +110,52 @@ public final class LanguageTest {
                 CHECK.due(method + ": parameters are not too many", method.getParameterCount() <= 7, true);
             }
         }
+    }
+
+    /** What the compiled classes name of other classes: beyond those of their own, LIBRARY alone. */
+    private static void library() throws IOException {
+        List<Class<?>> all = new ArrayList<>(List.of(NoiseEngine.class.getDeclaredClasses()));
+        all.add(NoiseEngine.class);
+        for (Class<?> any : all) {
+            for (String member : membersNamed(any)) {
+                CHECK.due(any.getName() + " uses " + member,
+                        member.startsWith("NoiseEngine") || LIBRARY.contains(member), true);
+            }
+        }
+    }
+
+    /** The fields and methods in the constant pool of a class, each as Class.name. */
+    private static Set<String> membersNamed(Class<?> any) throws IOException {
+        Set<String> members = new TreeSet<>();
+        try (DataInputStream in = new DataInputStream(any.getResourceAsStream("/" + any.getName() + ".class"))) {
+            in.skipNBytes(8);
+            int size = in.readUnsignedShort();
+            String[] texts = new String[size];
+            int[][] pairs = new int[size][];
+            int[] tags = new int[size];
+            for (int i = 1; i < size; i++) {
+                tags[i] = in.readUnsignedByte();
+                switch (tags[i]) {
+                    case 1 -> texts[i] = in.readUTF();
+                    case 3 -> in.skipNBytes(4);
+                    case 5 -> {
+                        in.skipNBytes(8);
+                        // A long takes two places of the pool.
+                        i++;
+                    }
+                    case 7, 8 -> pairs[i] = new int[] {in.readUnsignedShort()};
+                    case 9, 10, 11, 12 -> pairs[i] = new int[] {in.readUnsignedShort(), in.readUnsignedShort()};
+                    // Doubles, lambdas and texts joined by + need entries of other kinds.
+                    default -> throw new IOException(any.getName() + " has a constant of kind " + tags[i]);
+                }
+            }
+            for (int i = 1; i < size; i++) {
+                if (tags[i] >= 9 && tags[i] <= 11) {
+                    members.add(texts[pairs[pairs[i][0]][0]] + "." + texts[pairs[pairs[i][1]][0]]);
+                }
+            }
+        }
+        return members;
     }
 
     private static String withoutComments(String source) {
